@@ -80,6 +80,7 @@ final class CommitTest {
             boolean whole = t == 12;
             check.due("count(4) with t " + t, x.count(4), whole ? 1 : 0);
             check.due("get(1) with t " + t, x.get(1), whole ? 10 : 0);
+            check.due("block(2) with t " + t, x.block(2), whole ? 3 : 1);
             check.due("both ROOTS are sealed", Disks.sealed(x, 0) && Disks.sealed(x, 1), true);
         }
     }

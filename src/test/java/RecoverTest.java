@@ -34,6 +34,10 @@ final class RecoverTest {
         check.due(what + ": recover()", x.recover(), TwinRoots.DONE);
         check.due(what + ": count(4)", x.count(4), right ? 1 : 0);
         check.due(what + ": count(3)", x.count(3), 0);
+        if (!right) {
+            check.due(what + ": size()", x.size(), 0);
+            check.due(what + ": all are FREE", x.count(5), x.count(0) - 2);
+        }
     }
 
     /** One WORD is set, with the right SUM. */
@@ -89,6 +93,10 @@ final class RecoverTest {
             if (block != 0) {
                 poked(check, "the uppermost " + block, false, 1, 2, block);
             }
+            TwinRoots x = tree();
+            Disks.poke(x, 9, 6, block);
+            Disks.poke(x, 1, 3, 15);
+            due(check, "the last child " + block + ", and fewer keys", x, false);
         }
         poked(check, "one reached twice", false, 4, 4, 2);
         poked(check, "one reached from two", false, 9, 2, 2);

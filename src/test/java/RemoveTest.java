@@ -12,6 +12,8 @@ final class RemoveTest {
         innerParted(check);
         lastKey(check);
         writesAnew(check);
+        partedAnew(check);
+        fourteenWords(check);
         noRoom(check);
         down(check);
         underfullTree(check);
@@ -153,6 +155,33 @@ final class RemoveTest {
         check.due("block(12)", x.block(12), 1);
         check.due("block(13)", x.block(13), 1);
         check.due("was(16)", x.was(16), 160);
+    }
+
+    private static void partedAnew(Check check) {
+        TwinRoots x = PutTest.rising(16, 7);
+        x.commit();
+        removes(check, x, 1, 2);
+        Disks.due(check, x, 6, 2, 2, 5, 4, 3);
+        removes(check, x, 2, 3);
+        Disks.due(check, x, 5, 1, 3, 3, 30, 4, 40, 5, 50);
+        Disks.due(check, x, 7, 1, 2, 6, 60, 7, 70);
+        Disks.due(check, x, 6, 2, 2, 5, 6, 7);
+        check.due("block(3)", x.block(3), 4);
+    }
+
+    /** LMOST is 5, LMIN 2, CMOST 6, CMIN 3. */
+    private static void fourteenWords(Check check) {
+        TwinRoots x = new TwinRoots(14, 32);
+        x.format();
+        for (int k = 1; k <= 21; k++) {
+            x.put(k, k);
+        }
+        check.due("seven LEAVES, two above, one uppermost", x.count(8), 10);
+        check.due("count(6)", x.count(6), 3);
+        check.due("of seven the first four stay", x.word(4, 1), 4);
+        removes(check, x, 21, 1);
+        check.due("three children are enough", x.count(6), 3);
+        check.due("count(8)", x.count(8), 10);
     }
 
     private static void noRoom(Check check) {
