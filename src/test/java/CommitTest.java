@@ -5,6 +5,7 @@ final class CommitTest {
         rootsTakeTurns(check);
         nothingIsFresh(check);
         blocksComeFree(check);
+        wordsThatAreNotTold(check);
         epochWraps(check);
         cut(check);
         down(check);
@@ -55,6 +56,22 @@ final class CommitTest {
         check.due("ROOT 1 was written anew", x.block(2), 1);
         x.put(1, 3);
         check.due("the FREE one with the least number", x.count(7), 2);
+    }
+
+    /** "Where a WORD isn't told it is 0", whatever was there. */
+    private static void wordsThatAreNotTold(Check check) {
+        TwinRoots x = PutTest.rising(12, 5);
+        for (int w = 0; w < 12; w++) {
+            for (int b = 1; b < 8; b++) {
+                x.decay(b, w, -1 - b);
+            }
+        }
+        check.due("commit()", x.commit(), TwinRoots.DONE);
+        Disks.due(check, x, 1, Disks.MARK, 1, 4, 5);
+        check.due("put(5, 1)", x.put(5, 1), TwinRoots.DONE);
+        Disks.due(check, x, 5, 1, 2, 4, 40, 5, 1);
+        Disks.due(check, x, 6, 2, 2, 2, 4, 5);
+        check.due("word(7, 0)", x.word(7, 0), -8);
     }
 
     private static void epochWraps(Check check) {

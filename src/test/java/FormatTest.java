@@ -5,6 +5,7 @@ final class FormatTest {
         fromNew(check);
         fromUse(check);
         nothingIsArmed(check);
+        wordsThatAreNotTold(check);
         check.end();
     }
 
@@ -63,6 +64,23 @@ final class FormatTest {
             empty(check, x);
             check.due("put", x.put(1, 1), TwinRoots.DONE);
             check.due("commit", x.commit(), TwinRoots.DONE);
+        }
+    }
+
+    /** "Where a WORD isn't told it is 0", whatever was there; no other BLOCK is written. */
+    private static void wordsThatAreNotTold(Check check) {
+        TwinRoots x = new TwinRoots(12, 8);
+        for (int b = 0; b < 8; b++) {
+            for (int w = 0; w < 12; w++) {
+                x.decay(b, w, -1 - b);
+            }
+        }
+        x.format();
+        empty(check, x);
+        for (int b = 2; b < 8; b++) {
+            for (int w = 0; w < 12; w++) {
+                check.due("word(" + b + ", " + w + ")", x.word(b, w), -1 - b);
+            }
         }
     }
 }

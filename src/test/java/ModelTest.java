@@ -1,12 +1,13 @@
 import java.util.ArrayList;
-import java.util.Arrays;
 import java.util.List;
 
 /**
- * All promises: long runs of calls on the class and on the model, with every answer and the whole
- * state compared. What only looks changes nothing, so it is not counted against the 512 calls.
+ * All promises: long runs of calls that are made on the model, and then on the class, with every
+ * answer compared. An object answers 512 calls at most, so the whole state is compared on several
+ * objects, each with the run behind it and with another part of what can be asked, up to its 512th.
  */
 final class ModelTest {
+    private static final int MOST_CALLS = 512;
     private static final int[] WORDS = {12, 12, 12, 13, 14, 15, 16, 17, 20, 27, 40};
     private static final int[] BLOCKS = {4, 5, 6, 8, 12, 16, 24, 40, 64, 64};
     private static final int[] EDGES = {
@@ -15,9 +16,8 @@ final class ModelTest {
     private final Check check;
     private final int run;
     private long seed;
-    private final TwinRoots x;
     private final Model m;
-    private final StringBuilder calls = new StringBuilder();
+    private final List<Call> calls = new ArrayList<>();
     private final int keys;
     private final int mischief;
 
@@ -25,13 +25,9 @@ final class ModelTest {
         this.check = check;
         this.run = run;
         seed = run * 7919L + 17;
-        int w = WORDS[below(WORDS.length)];
-        int b = BLOCKS[below(BLOCKS.length)];
-        x = new TwinRoots(w, b);
-        m = new Model(w, b);
+        m = new Model(WORDS[below(WORDS.length)], BLOCKS[below(BLOCKS.length)]);
         keys = 1 + below(3) * 30 + below(200);
         mischief = below(4);
-        calls.append("new TwinRoots(" + w + ", " + b + ")");
     }
 
     private int below(int n) {
@@ -43,86 +39,60 @@ final class ModelTest {
         return below(12) == 0 ? EDGES[below(EDGES.length)] : below(keys) - keys / 3;
     }
 
-    /** The texts are joined for a wrong answer alone: there are millions of right ones. */
-    private void due(String call, long got, long want, int... arguments) {
-        boolean right = got == want;
-        check.due(right ? call : "run " + run + ": " + calls + "; then " + call
-                + Arrays.toString(arguments), got, want);
+    /** Makes a call on the model, and keeps it with its answer for the class. */
+    private int made(Call.What what, int... arguments) {
+        Call call = new Call(m, what, arguments);
+        calls.add(call);
+        return call.answer;
     }
 
-    private void due(String call, boolean got, boolean want, int... arguments) {
-        due(call, got ? 1 : 0, want ? 1 : 0, arguments);
-    }
-
-    private void note(String call) {
-        calls.append("; ").append(call);
-    }
-
-    private void go(int steps) {
-        if (below(5) != 0) {
-            format();
-        }
-        int mood = 0;
+    private void go() {
+        int most = 60 + below(440);
         int commits = 2 + below(30);
-        for (int i = 0; i < steps && !check.anyWrong(); i++) {
-            if (i % 60 == 0) {
+        int apart = 5 + below(60);
+        int mood = 0;
+        if (below(5) != 0) {
+            made(Call.What.FORMAT);
+        }
+        while (calls.size() < most && !check.anyWrong()) {
+            if (below(60) == 0) {
                 mood = below(3);
             }
             step(mood, commits);
-            compareState();
+            if (below(apart) == 0) {
+                compareState();
+            }
         }
+        compareState();
     }
 
     private void step(int mood, int commits) {
         if (below(commits) == 0) {
-            note("commit()");
-            due("answer", x.commit(), m.commit());
+            made(Call.What.COMMIT);
         } else if (mischief > 0 && below(40) < mischief) {
             disturb();
-        } else if (x.count(3) == 1 && below(3) == 0) {
-            if (recover() == Model.NOTHING && below(3) == 0) {
-                format();
+        } else if (m.count(3) == 1 && below(3) == 0) {
+            if (made(Call.What.RECOVER) == Model.NOTHING && below(3) == 0) {
+                made(Call.What.FORMAT);
             }
         } else if (below(10) < (mood == 0 ? 9 : mood == 1 ? 5 : 2)) {
-            int k = someKey();
-            int v = below(4) == 0 ? EDGES[below(EDGES.length)] : below(1000);
-            note("put(" + k + ", " + v + ")");
-            due("answer", x.put(k, v), m.put(k, v));
+            made(Call.What.PUT, someKey(), below(4) == 0 ? EDGES[below(EDGES.length)] : below(1000));
         } else {
-            int k = below(5) == 0 ? someKey() : m.key(below(Math.max(1, m.size())));
-            note("remove(" + k + ")");
-            due("answer", x.remove(k), m.remove(k));
+            made(Call.What.REMOVE, below(5) == 0 ? someKey() : m.key(below(Math.max(1, m.size()))));
         }
-    }
-
-    private void format() {
-        note("format()");
-        x.format();
-        m.format();
-    }
-
-    private int recover() {
-        note("recover()");
-        int answer = m.recover();
-        due("answer", x.recover(), answer);
-        return answer;
     }
 
     private void disturb() {
         switch (below(9)) {
             case 0:
-                recover();
+                made(Call.What.RECOVER);
                 break;
             case 1:
             case 2:
-                int n = below(9) - 1;
-                int t = below(m.words + 4) - 2;
-                note("arm(" + n + ", " + t + ")");
-                x.arm(n, t);
-                m.arm(n, t);
+                made(Call.What.ARM, below(9) - 1, below(m.words + 4) - 2);
                 break;
             case 3:
-                decay(below(m.blocks + 2) - 1, below(m.words + 2) - 1, 1 << below(32));
+                made(Call.What.DECAY, below(m.blocks + 2) - 1, below(m.words + 2) - 1, 1 << below(32));
                 break;
             case 4:
                 poke(below(m.blocks), below(m.words - 1), below(6) == 0 ? someKey() : below(8));
@@ -135,23 +105,18 @@ final class ModelTest {
                 break;
             case 7:
                 layTree(below(2));
-                recover();
+                made(Call.What.RECOVER);
                 break;
             default:
                 if (below(4) == 0) {
-                    format();
+                    made(Call.What.FORMAT);
                 }
         }
     }
 
-    private void decay(int b, int w, int mask) {
-        note("decay(" + b + ", " + w + ", " + mask + ")");
-        due("answer", x.decay(b, w, mask), m.decay(b, w, mask));
-    }
-
     private void set(int b, int w, int value) {
         if (m.word(b, w) != value) {
-            decay(b, w, m.word(b, w) ^ value);
+            made(Call.What.DECAY, b, w, m.word(b, w) ^ value);
         }
     }
 
@@ -180,20 +145,22 @@ final class ModelTest {
             poke(root, 3, m.word(root, 3) - 1);
         }
         if (below(2) == 0) {
-            recover();
+            made(Call.What.RECOVER);
         }
     }
 
-    /** A tree of any fill that is RIGHT, or RIGHT but for one thing, laid on the disk. */
+    /** A tree of any fill that is RIGHT, or RIGHT but for one thing, laid on the disk if calls are left. */
     private void layTree(int root) {
+        if (calls.size() > MOST_CALLS / 3) {
+            return;
+        }
         List<Integer> room = new ArrayList<>();
         for (int b = 2; b < m.blocks; b++) {
             room.add(below(room.size() + 1), b);
         }
-        int depth = 1 + below(4);
         nextKey = below(50) - 25;
         laidKeys = 0;
-        int top = layNode(depth, room);
+        int top = layNode(1 + below(4), room);
         if (top == 0) {
             return;
         }
@@ -216,13 +183,13 @@ final class ModelTest {
     private int laidKeys;
 
     private int layNode(int depth, List<Integer> room) {
-        if (room.isEmpty()) {
+        if (room.isEmpty() || calls.size() > MOST_CALLS - 4 * m.words) {
             return 0;
         }
         int b = room.remove(room.size() - 1);
         int[] row = new int[m.words];
         row[0] = depth == 1 ? 1 : 2;
-        int most = depth == 1 ? (m.words - 3) / 2 : Math.min(4, (m.words - 2) / 2);
+        int most = Math.min(depth == 1 ? 5 : 4, depth == 1 ? (m.words - 3) / 2 : (m.words - 2) / 2);
         int least = depth == 1 ? 1 : 2;
         int many = least + below(most - least + 1);
         row[1] = many;
@@ -249,37 +216,63 @@ final class ModelTest {
         return b;
     }
 
-    private void compareState() {
+    private List<Call> looks() {
+        List<Call> all = new ArrayList<>();
+        for (int what = -1; what <= 10; what++) {
+            all.add(new Call(m, Call.What.COUNT, what));
+        }
+        all.add(new Call(m, Call.What.SIZE));
+        for (int i = 0; i < 9; i++) {
+            int k = someKey();
+            all.add(new Call(m, Call.What.GET, k));
+            all.add(new Call(m, Call.What.CONTAINS, k));
+            all.add(new Call(m, Call.What.WAS, k));
+            all.add(new Call(m, Call.What.RANK, k));
+            all.add(new Call(m, Call.What.KEY, below(Math.max(1, m.size()) + 2) - 1));
+            all.add(new Call(m, Call.What.SUM, k, someKey()));
+        }
         for (int b = -1; b <= m.blocks; b++) {
-            due("block", x.block(b), m.block(b), b);
+            all.add(new Call(m, Call.What.BLOCK, b));
             for (int w = -1; w <= m.words; w++) {
-                if (x.word(b, w) != m.word(b, w)) {
-                    due("word", x.word(b, w), m.word(b, w), b, w);
-                }
+                all.add(new Call(m, Call.What.WORD, b, w));
             }
         }
-        for (int what = -1; what <= 10; what++) {
-            due("count", x.count(what), m.count(what), what);
+        return all;
+    }
+
+    private void compareState() {
+        int room = MOST_CALLS - calls.size();
+        if (room <= 0) {
+            return;
         }
-        due("size", x.size(), m.size());
-        for (int i = 0; i < 5; i++) {
-            int k = someKey();
-            due("get", x.get(k), m.get(k), k);
-            due("contains", x.contains(k), m.contains(k), k);
-            due("was", x.was(k), m.was(k), k);
-            due("rank", x.rank(k), m.rank(k), k);
-            int at = below(Math.max(1, m.size()) + 2) - 1;
-            due("key", x.key(at), m.key(at), at);
-            int to = someKey();
-            due("sum", x.sum(k, to), m.sum(k, to), k, to);
+        List<Call> looks = looks();
+        for (int from = 0; from < looks.size() && !check.anyWrong(); from += room) {
+            TwinRoots x = new TwinRoots(m.words, m.blocks);
+            for (int i = 0; i < calls.size(); i++) {
+                due(x, calls.get(i), i);
+            }
+            for (int i = 0; i < room; i++) {
+                due(x, looks.get((from + i) % looks.size()), calls.size());
+            }
         }
+    }
+
+    /** The text of the run is joined for a wrong answer alone: there are millions of right ones. */
+    private void due(TwinRoots x, Call call, int ahead) {
+        int got = call.on(x);
+        String told = "";
+        if (got != call.answer) {
+            told = "run " + run + ": new TwinRoots(" + m.words + ", " + m.blocks + ") " + calls.subList(0, ahead)
+                    + "; then " + call;
+        }
+        check.due(told, got, call.answer);
     }
 
     public static void main(String[] args) {
         Check check = new Check("ModelTest");
-        int runs = args.length > 0 ? Integer.parseInt(args[0]) : 400;
+        int runs = args.length > 0 ? Integer.parseInt(args[0]) : 1200;
         for (int run = 0; run < runs && !check.anyWrong(); run++) {
-            new ModelTest(check, run).go(450);
+            new ModelTest(check, run).go();
         }
         check.end();
     }

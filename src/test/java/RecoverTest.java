@@ -161,10 +161,10 @@ final class RecoverTest {
         y.format();
         Disks.lay(y, 1, Disks.MARK, 1, 2, 13);
         for (int d = 2; d < 14; d++) {
-            Disks.lay(y, d, 2, 2, d + 1, 100 - d, d + 18);
-            Disks.lay(y, d + 18, 1, 1, 100 - d, 1);
+            Disks.layNew(y, d, 2, 2, d + 1, 100 - d, d + 18);
+            Disks.layNew(y, d + 18, 1, 1, 100 - d, 1);
         }
-        Disks.lay(y, 14, 1, 1, 1, 1);
+        Disks.layNew(y, 14, 1, 1, 1, 1);
         due(check, "a comb", y, false);
         TwinRoots z = new TwinRoots(12, 33);
         z.format();
@@ -174,10 +174,10 @@ final class RecoverTest {
             int level = 31 - Integer.numberOfLeadingZeros(n);
             int width = 16 >> level;
             int middle = (n - (1 << level)) * width + width / 2;
-            Disks.lay(z, b, 2, 2, 2 * n + 1, middle, 2 * n + 2);
+            Disks.layNew(z, b, 2, 2, 2 * n + 1, middle, 2 * n + 2);
         }
         for (int leaf = 0; leaf < 16; leaf++) {
-            Disks.lay(z, 17 + leaf, 1, 1, leaf, leaf * leaf);
+            Disks.layNew(z, 17 + leaf, 1, 1, leaf, leaf * leaf);
         }
         due(check, "five deep, two children each", z, true);
         check.due("count(6)", z.count(6), 5);

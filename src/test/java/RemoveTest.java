@@ -17,6 +17,7 @@ final class RemoveTest {
         noRoom(check);
         down(check);
         underfullTree(check);
+        underfullFreshPath(check);
         check.end();
     }
 
@@ -220,18 +221,39 @@ final class RemoveTest {
     /** A tree that recover() takes though its NODES are below LMIN and CMIN. */
     private static void underfullTree(Check check) {
         TwinRoots x = new TwinRoots(12, 16);
-        Disks.lay(x, 0, Disks.MARK, 5, 2, 4);
-        Disks.lay(x, 2, 2, 2, 3, 30, 4);
-        Disks.lay(x, 3, 2, 2, 5, 20, 6);
-        Disks.lay(x, 4, 2, 2, 7, 40, 8);
+        Disks.layNew(x, 0, Disks.MARK, 5, 2, 4);
+        Disks.layNew(x, 2, 2, 2, 3, 30, 4);
+        Disks.layNew(x, 3, 2, 2, 5, 20, 6);
+        Disks.layNew(x, 4, 2, 2, 7, 40, 8);
         for (int leaf = 0; leaf < 4; leaf++) {
-            Disks.lay(x, 5 + leaf, 1, 1, 10 + 10 * leaf, leaf);
+            Disks.layNew(x, 5 + leaf, 1, 1, 10 + 10 * leaf, leaf);
         }
         check.due("recover()", x.recover(), TwinRoots.DONE);
         check.due("count(6)", x.count(6), 3);
         removes(check, x, 40, 2);
         Disks.due(check, x, 9, 1, 1, 30, 2);
         Disks.due(check, x, 10, 2, 3, 5, 20, 6, 30, 9);
+        check.due("count(7)", x.count(7), 10);
+        check.due("count(6)", x.count(6), 2);
+    }
+
+    /** INNER NODES below CMIN are MENDED though they have lost no child, and nothing below is new. */
+    private static void underfullFreshPath(Check check) {
+        TwinRoots x = new TwinRoots(12, 16);
+        Disks.layNew(x, 0, Disks.MARK, 5, 2, 12);
+        Disks.layNew(x, 2, 2, 2, 3, 30, 4);
+        Disks.layNew(x, 3, 2, 2, 5, 20, 6);
+        Disks.layNew(x, 4, 2, 2, 7, 40, 8);
+        for (int leaf = 0; leaf < 4; leaf++) {
+            int k = 10 + 10 * leaf;
+            Disks.layNew(x, 5 + leaf, 1, 3, k, 1, k + 1, 2, k + 2, 3);
+        }
+        check.due("recover()", x.recover(), TwinRoots.DONE);
+        check.due("put(10, 5)", x.put(10, 5), TwinRoots.DONE);
+        check.due("LEAF 9, INNER 10, uppermost 11", x.count(7), 11);
+        removes(check, x, 11, 2);
+        Disks.due(check, x, 9, 1, 2, 10, 5, 12, 3);
+        Disks.due(check, x, 10, 2, 4, 9, 20, 6, 30, 7, 40, 8);
         check.due("count(7)", x.count(7), 10);
         check.due("count(6)", x.count(6), 2);
     }
