@@ -51,7 +51,8 @@ final class FaceTest {
         }
         Constructor<?>[] made = TwinRoots.class.getDeclaredConstructors();
         check.due("constructors", made.length, 1);
-        check.due("constructor", Arrays.equals(made[0].getParameterTypes(), new Class<?>[] {int.class, int.class}), true);
+        Class<?>[] given = {int.class, int.class};
+        check.due("constructor", Arrays.equals(made[0].getParameterTypes(), given), true);
         for (Field f : TwinRoots.class.getDeclaredFields()) {
             boolean ownOrFinal = Modifier.isPrivate(f.getModifiers())
                     || Modifier.isPublic(f.getModifiers()) && Modifier.isFinal(f.getModifiers());
@@ -82,7 +83,8 @@ final class FaceTest {
         String[] ruledOut = {"\\bthrows?\\b", "\\btry\\b", "\\bcatch\\b", "\\bfinally\\b", "\\bsynchronized\\b",
             "\\bassert\\b", "\\bpackage\\b", "\\bimport\\b", "\\bprotected\\b", "->", "::", "Exact\\b", "\"",
             "\\bSystem\\.(?!arraycopy)", "\\bThread\\b", "\\bRandom\\b", "\\bstatic\\s*\\{",
-            "\\bstatic (?!final)\\w+ \\w+ *[=;]", "\\bwhile *\\( *true", "\\bfor *\\( *;", "\\bnew \\w+\\[[^\\]]*\\]\\["};
+            "\\bstatic (?!final)\\w+ \\w+ *[=;]", "\\bwhile *\\( *true", "\\bfor *\\( *;",
+            "\\bnew \\w+\\[[^\\]]*\\]\\["};
         for (String pattern : ruledOut) {
             Matcher found = Pattern.compile(pattern).matcher(code);
             check.due("no " + pattern, found.find(), false);

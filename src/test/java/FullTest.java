@@ -24,6 +24,7 @@ final class FullTest {
         theLimitsInNumbers(check);
         enoughAndOneTooFew(check);
         whatDropsOutIsNotTaken(check);
+        whatDropsOutBelowIsNotTaken(check);
         theLastBlock(check);
         fullDiskCommits(check);
         theLeastDisk(check);
@@ -365,6 +366,29 @@ final class FullTest {
                 check.due("it is FREE behind the call", x.block(6), 1);
                 check.due("put(1, 1)", x.put(1, 1), TwinRoots.DONE);
                 check.due("and is taken by the next one", x.block(6), 2);
+            }
+        }
+    }
+
+    /** The same, where a LEAF dropped out and an INNER NODE needs a BLOCK in the same call. */
+    private static void whatDropsOutBelowIsNotTaken(Check check) {
+        for (int blocks = 15; blocks <= 16; blocks++) {
+            TwinRoots x = committed(blocks, 17);
+            x.put(17, 1);
+            check.due("LEAF 11, INNER 12, uppermost 13", x.count(7), 13);
+            check.due("count(5)", x.count(5), blocks - 14);
+            if (blocks == 15) {
+                check.due("two are needed", x.remove(17), TwinRoots.NOROOM);
+                check.due("get(17)", x.get(17), 1);
+                check.due("count(7)", x.count(7), 13);
+            } else {
+                check.due("remove(17)", x.remove(17), TwinRoots.DONE);
+                Disks.due(check, x, 14, 1, 4, 13, 130, 14, 140, 15, 150, 16, 160);
+                Disks.due(check, x, 15, 2, 5, 2, 4, 3, 7, 5, 10, 6, 13, 14);
+                check.due("count(7)", x.count(7), 15);
+                for (int b = 11; b <= 13; b++) {
+                    check.due("block(" + b + ")", x.block(b), 1);
+                }
             }
         }
     }

@@ -314,15 +314,20 @@ final class RecoverTest {
         check.due("get(17)", x.get(17), 170);
     }
 
+    /** RIGHT is told of kind, how many, SUM and keys: WORDS that are not told have no part in it. */
     private static void unusedWords(Check check) {
-        TwinRoots x = tree();
-        Disks.poke(x, 1, 9, 77);
-        Disks.poke(x, 8, 9, 78);
-        x.decay(0, 7, 1);
-        due(check, "WORDS that are not told", x, true);
-        check.due("the same WORDS", x.word(0, 9), 77);
-        check.due("sealed", Disks.sealed(x, 0), true);
-        x.put(17, 1);
-        Disks.due(check, x, 11, 1, 2, 16, 160, 17, 1);
+        for (int w = 4; w <= 10; w++) {
+            TwinRoots x = tree();
+            Disks.poke(x, 1, w, 77);
+            Disks.poke(x, 8, Math.max(6, w), 78);
+            Disks.poke(x, 10, Math.max(5, w), 79);
+            x.decay(0, 7, 1);
+            due(check, "WORD " + w + " that is not told", x, true);
+            check.due("the same WORDS", x.word(0, w), 77);
+            check.due("sealed", Disks.sealed(x, 0), true);
+            x.put(17, 1);
+            Disks.due(check, x, 11, 1, 2, 16, 160, 17, 1);
+            Disks.due(check, x, 13, 2, 2, 4, 10, 12);
+        }
     }
 }

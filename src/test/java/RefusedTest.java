@@ -14,6 +14,7 @@ final class RefusedTest {
         downUsesNoWrite(check);
         upAgain(check);
         absent(check);
+        whatIsNoWrite(check);
         absentComesBeforeNoRoom(check);
         noRoom(check);
         nothing(check);
@@ -150,6 +151,23 @@ final class RefusedTest {
         }
         State.of(x, ASKED).sameAs(check, "ABSENT", before);
         check.due("the cut is still armed", x.commit(), TwinRoots.DOWN);
+    }
+
+    /** Of the n WRITES that go well none is used up by a call that WRITES nothing. */
+    private static void whatIsNoWrite(Check check) {
+        TwinRoots x = twoCommits();
+        x.arm(1, 0);
+        for (int i = 0; i < 3; i++) {
+            check.due("remove(7)", x.remove(7), TwinRoots.ABSENT);
+            check.due("decay", x.decay(8, 1, 5), true);
+            check.due("decay of no WORD", x.decay(9, 1, 5), false);
+            check.due("recover()", x.recover(), TwinRoots.DONE);
+            check.due("get", x.get(1), 11);
+            check.due("was", x.was(1), 11);
+            check.due("word", x.word(3, 3), 11);
+        }
+        check.due("the one WRITE that goes well", x.put(1, 12), TwinRoots.DONE);
+        check.due("the next one", x.put(1, 13), TwinRoots.DOWN);
     }
 
     private static void absentComesBeforeNoRoom(Check check) {
@@ -295,6 +313,8 @@ final class RefusedTest {
             check.due("count(4) with t " + t, x.count(4), cameWhole ? 2 : 1);
             check.due("get(16) with t " + t, x.get(16), cameWhole ? 1 : 160);
             check.due("was(16) with t " + t, x.was(16), cameWhole ? 1 : 160);
+            check.due("block(8) with t " + t, x.block(8), cameWhole ? 3 : 1);
+            check.due("block(4) with t " + t, x.block(4), cameWhole ? 4 : 3);
             boolean mended = t > 1 && !cameWhole;
             check.due("count(2) with t " + t, x.count(2), writes + (mended ? 1 : 0));
         }
