@@ -40,7 +40,9 @@ final class FaceTest {
         check.due("public and final", TwinRoots.class.getModifiers(), Modifier.PUBLIC | Modifier.FINAL);
         Set<String> seen = new TreeSet<>();
         for (Method m : TwinRoots.class.getDeclaredMethods()) {
-            if (!Modifier.isPrivate(m.getModifiers())) {
+            if (Modifier.isPrivate(m.getModifiers())) {
+                check.due(m.getName() + " is no name of the face", openNames().contains(m.getName()), false);
+            } else {
                 check.due(m.getName() + " is public alone", m.getModifiers(), Modifier.PUBLIC);
                 String types = Arrays.toString(m.getParameterTypes()).replaceAll("[\\[\\] ]", "");
                 seen.add(m.getReturnType() + " " + m.getName() + "(" + types + ")");
@@ -60,11 +62,16 @@ final class FaceTest {
         }
     }
 
-    private static void nestedClasses(Check check) {
+    private static Set<String> openNames() {
         Set<String> open = new HashSet<>();
         for (String m : METHODS) {
             open.add(m.substring(m.indexOf(' ') + 1, m.indexOf('(')));
         }
+        return open;
+    }
+
+    private static void nestedClasses(Check check) {
+        Set<String> open = openNames();
         Class<?>[] nested = TwinRoots.class.getDeclaredClasses();
         check.due("at most twelve classes", nested.length < 12, true);
         for (Class<?> c : nested) {
@@ -73,6 +80,7 @@ final class FaceTest {
             check.due(c.getName() + " has few fields", c.getDeclaredFields().length <= 20, true);
             for (Method m : c.getDeclaredMethods()) {
                 check.due(m.getName() + " is no name of the face", open.contains(m.getName()), false);
+                check.due(m.getName() + " takes seven at most", m.getParameterCount() <= 7, true);
             }
         }
     }

@@ -9,6 +9,7 @@ final class LookupTest {
         committedMap(check);
         down(check);
         diskIsNotRead(check);
+        rightNodeIsNotRead(check);
         check.end();
     }
 
@@ -132,5 +133,28 @@ final class LookupTest {
         check.due("sum(1, 9)", x.sum(1, 9), 450);
         check.due("count(4)", x.count(4), 1);
         check.due("put(5, 1)", x.put(5, 1), TwinRoots.DONE);
+    }
+
+    /** "The disk is read by recover() alone": also where it tells another value with the right SUM. */
+    private static void rightNodeIsNotRead(Check check) {
+        for (int keys = 3; keys <= 6; keys += 3) {
+            TwinRoots x = PutTest.rising(12, keys);
+            x.commit();
+            Disks.poke(x, 2, 3, 77);
+            check.due("get(1)", x.get(1), 10);
+            check.due("was(1)", x.was(1), 10);
+            check.due("sum(1, 1)", x.sum(1, 1), 10);
+            Disks.poke(x, 2, 2, 0);
+            check.due("contains(0)", x.contains(0), false);
+            check.due("rank(1)", x.rank(1), 0);
+            check.due("key(0)", x.key(0), 1);
+            check.due("remove(0)", x.remove(0), TwinRoots.ABSENT);
+            check.due("put(2, 5)", x.put(2, 5), TwinRoots.DONE);
+            Disks.due(check, x, keys == 3 ? 3 : 5, 1, 3, 1, 10, 2, 5, 3, 30);
+            check.due("recover()", x.recover(), TwinRoots.DONE);
+            check.due("get(0)", x.get(0), 77);
+            check.due("contains(1)", x.contains(1), false);
+            check.due("was(0)", x.was(0), 77);
+        }
     }
 }

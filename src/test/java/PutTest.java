@@ -5,7 +5,11 @@ final class PutTest {
         oneLeaf(check);
         leafBecomesTwo(check);
         innerBecomesTwo(check);
+        valueOfZero(check);
         writesAnew(check);
+        leafBecomesTwoAnew(check);
+        innerBecomesTwoAnew(check);
+        uppermostBecomesTwoAnew(check);
         noRoom(check);
         noRoomWithinAPut(check);
         down(check);
@@ -72,6 +76,19 @@ final class PutTest {
         Disks.due(check, x, 10, 2, 2, 4, 10, 9);
     }
 
+    /** "the value in place of the one there": 0 is a value as others are. */
+    private static void valueOfZero(Check check) {
+        TwinRoots x = rising(8, 2);
+        check.due("put(1, 0)", x.put(1, 0), TwinRoots.DONE);
+        Disks.due(check, x, 2, 1, 2, 1, 0, 2, 20);
+        check.due("get(1)", x.get(1), 0);
+        check.due("contains(1)", x.contains(1), true);
+        check.due("size()", x.size(), 2);
+        check.due("put(0, 0)", x.put(0, 0), TwinRoots.DONE);
+        Disks.due(check, x, 2, 1, 3, 0, 0, 1, 0, 2, 20);
+        check.due("size()", x.size(), 3);
+    }
+
     private static void writesAnew(Check check) {
         TwinRoots x = rising(24, 17);
         x.commit();
@@ -92,6 +109,54 @@ final class PutTest {
         Disks.due(check, x, 13, 2, 2, 15, 10, 12);
         check.due("was(1)", x.was(1), 10);
         check.due("get(1)", x.get(1), 3);
+    }
+
+    /** "of two the one that stays is WRITTEN first; then their parent", and each takes the least BLOCK. */
+    private static void leafBecomesTwoAnew(Check check) {
+        TwinRoots x = rising(16, 7);
+        x.commit();
+        int writes = x.count(2);
+        check.due("put(8, 80)", x.put(8, 80), TwinRoots.DONE);
+        check.due("WRITES", x.count(2), writes + 3);
+        Disks.due(check, x, 5, 1, 3, 4, 40, 5, 50, 6, 60);
+        Disks.due(check, x, 6, 1, 2, 7, 70, 8, 80);
+        Disks.due(check, x, 7, 2, 3, 2, 4, 5, 7, 6);
+        check.due("count(7)", x.count(7), 7);
+    }
+
+    private static void innerBecomesTwoAnew(Check check) {
+        TwinRoots x = rising(24, 25);
+        check.due("three deep", x.count(6), 3);
+        check.due("the right INNER is full", x.word(9, 1), 5);
+        x.commit();
+        int writes = x.count(2);
+        check.due("put(26, 260)", x.put(26, 260), TwinRoots.DONE);
+        check.due("WRITES", x.count(2), writes + 5);
+        Disks.due(check, x, 13, 1, 3, 22, 220, 23, 230, 24, 240);
+        Disks.due(check, x, 14, 1, 2, 25, 250, 26, 260);
+        Disks.due(check, x, 15, 2, 3, 6, 13, 7, 16, 8);
+        Disks.due(check, x, 16, 2, 3, 11, 22, 13, 25, 14);
+        Disks.due(check, x, 17, 2, 3, 4, 10, 15, 19, 16);
+        check.due("count(6)", x.count(6), 3);
+    }
+
+    private static void uppermostBecomesTwoAnew(Check check) {
+        TwinRoots x = rising(16, 16);
+        x.commit();
+        int writes = x.count(2);
+        check.due("put(17, 170)", x.put(17, 170), TwinRoots.DONE);
+        check.due("WRITES", x.count(2), writes + 5);
+        Disks.due(check, x, 8, 1, 3, 13, 130, 14, 140, 15, 150);
+        Disks.due(check, x, 9, 1, 2, 16, 160, 17, 170);
+        Disks.due(check, x, 10, 2, 3, 2, 4, 3, 7, 5);
+        Disks.due(check, x, 11, 2, 3, 6, 13, 8, 16, 9);
+        Disks.due(check, x, 12, 2, 2, 10, 10, 11);
+        TwinRoots y = rising(16, 4);
+        y.commit();
+        y.put(5, 50);
+        Disks.due(check, y, 3, 1, 3, 1, 10, 2, 20, 3, 30);
+        Disks.due(check, y, 4, 1, 2, 4, 40, 5, 50);
+        Disks.due(check, y, 5, 2, 2, 3, 4, 4);
     }
 
     private static void noRoom(Check check) {

@@ -14,6 +14,7 @@ final class RecoverTest {
         kindsAndHowMany(check);
         sums(check);
         depths(check);
+        unlikeKindsOfALevel(check);
         keys(check);
         whichRoot(check);
         otherRootIsWritten(check);
@@ -157,6 +158,16 @@ final class RecoverTest {
         Disks.poke(x, 10, 2, 2);
         Disks.poke(x, 1, 3, 3 + 8);
         due(check, "a LEAF that is less deep", x, false);
+        for (int keys : new int[] {2, 3, 8, 9, 11}) {
+            TwinRoots first = tree();
+            Disks.poke(first, 10, 2, 2);
+            Disks.poke(first, 1, 3, keys);
+            due(check, "a first LEAF that is less deep, and " + keys + " keys", first, false);
+            TwinRoots last = tree();
+            Disks.poke(last, 10, 4, 8);
+            Disks.poke(last, 1, 3, keys);
+            due(check, "a last LEAF that is less deep, and " + keys + " keys", last, false);
+        }
         TwinRoots y = new TwinRoots(12, 40);
         y.format();
         Disks.lay(y, 1, Disks.MARK, 1, 2, 13);
@@ -183,6 +194,33 @@ final class RecoverTest {
         check.due("count(6)", z.count(6), 5);
         check.due("count(8)", z.count(8), 31);
         check.due("get(15)", z.get(15), 225);
+    }
+
+    /**
+     * A LEAF beside an INNER NODE, with WORDS that would serve if the one were read as the other: the
+     * INNER's count and KEY as keys, the LEAF's values as BLOCKS.
+     */
+    private static void unlikeKindsOfALevel(Check check) {
+        TwinRoots x = new TwinRoots(12, 12);
+        x.format();
+        Disks.lay(x, 1, Disks.MARK, 1, 2, 3);
+        Disks.layNew(x, 2, 2, 2, 3, 2, 4);
+        Disks.layNew(x, 3, 1, 1, 1, 10);
+        Disks.layNew(x, 4, 2, 2, 5, 13, 6);
+        Disks.layNew(x, 5, 1, 1, 2, 20);
+        Disks.layNew(x, 6, 1, 1, 13, 130);
+        due(check, "an INNER behind a LEAF", x, false);
+        TwinRoots y = new TwinRoots(12, 12);
+        y.format();
+        Disks.lay(y, 1, Disks.MARK, 1, 2, 4);
+        Disks.layNew(y, 2, 2, 2, 3, 50, 4);
+        Disks.layNew(y, 3, 2, 2, 5, 20, 6);
+        Disks.layNew(y, 4, 1, 2, 50, 7, 60, 8);
+        Disks.layNew(y, 5, 1, 1, 10, 1);
+        Disks.layNew(y, 6, 1, 1, 20, 2);
+        Disks.layNew(y, 7, 1, 1, 50, 5);
+        Disks.layNew(y, 8, 1, 1, 60, 6);
+        due(check, "a LEAF behind an INNER", y, false);
     }
 
     private static void keys(Check check) {

@@ -12,7 +12,10 @@ final class RemoveTest {
         innerParted(check);
         lastKey(check);
         writesAnew(check);
+        keyMayStayAnew(check);
         partedAnew(check);
+        leavesPartedAnew(check);
+        innersPartedAnew(check);
         fourteenWords(check);
         noRoom(check);
         down(check);
@@ -158,6 +161,17 @@ final class RemoveTest {
         check.due("was(16)", x.was(16), 160);
     }
 
+    /** "(A KEY that is in no LEAF any more may stay.)": also where the NODE above is WRITTEN. */
+    private static void keyMayStayAnew(Check check) {
+        TwinRoots x = PutTest.rising(16, 6);
+        x.commit();
+        removes(check, x, 4, 2);
+        Disks.due(check, x, 5, 1, 2, 5, 50, 6, 60);
+        Disks.due(check, x, 6, 2, 2, 2, 4, 5);
+        check.due("put(4, 1)", x.put(4, 1), TwinRoots.DONE);
+        Disks.due(check, x, 5, 1, 3, 4, 1, 5, 50, 6, 60);
+    }
+
     private static void partedAnew(Check check) {
         TwinRoots x = PutTest.rising(16, 7);
         x.commit();
@@ -168,6 +182,44 @@ final class RemoveTest {
         Disks.due(check, x, 7, 1, 2, 6, 60, 7, 70);
         Disks.due(check, x, 6, 2, 2, 5, 6, 7);
         check.due("block(3)", x.block(3), 4);
+    }
+
+    /** "the one or both that a MENDING left, the left one first", and each takes the least BLOCK. */
+    private static void leavesPartedAnew(Check check) {
+        TwinRoots x = PutTest.rising(16, 7);
+        x.remove(1);
+        x.commit();
+        removes(check, x, 2, 3);
+        Disks.due(check, x, 5, 1, 3, 3, 30, 4, 40, 5, 50);
+        Disks.due(check, x, 6, 1, 2, 6, 60, 7, 70);
+        Disks.due(check, x, 7, 2, 2, 5, 6, 6);
+        TwinRoots y = PutTest.rising(16, 5);
+        y.put(0, 5);
+        y.commit();
+        removes(check, y, 5, 3);
+        Disks.due(check, y, 5, 1, 3, 0, 5, 1, 10, 2, 20);
+        Disks.due(check, y, 6, 1, 2, 3, 30, 4, 40);
+        Disks.due(check, y, 7, 2, 2, 5, 3, 6);
+    }
+
+    private static void innersPartedAnew(Check check) {
+        TwinRoots x = PutTest.rising(16, 17);
+        x.put(0, 1);
+        x.put(-1, 2);
+        x.commit();
+        removes(check, x, 17, 4);
+        Disks.due(check, x, 12, 1, 4, 13, 130, 14, 140, 15, 150, 16, 160);
+        Disks.due(check, x, 13, 2, 3, 2, 2, 11, 4, 3);
+        Disks.due(check, x, 14, 2, 3, 5, 10, 6, 13, 12);
+        Disks.due(check, x, 15, 2, 2, 13, 7, 14);
+        TwinRoots y = PutTest.rising(24, 20);
+        y.remove(1);
+        y.commit();
+        removes(check, y, 2, 4);
+        Disks.due(check, y, 12, 1, 4, 3, 30, 4, 40, 5, 50, 6, 60);
+        Disks.due(check, y, 13, 2, 3, 12, 7, 5, 10, 6);
+        Disks.due(check, y, 14, 2, 3, 7, 16, 8, 19, 11);
+        Disks.due(check, y, 15, 2, 2, 13, 13, 14);
     }
 
     /** LMOST is 5, LMIN 2, CMOST 6, CMIN 3. */

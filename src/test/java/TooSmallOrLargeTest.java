@@ -9,9 +9,12 @@ final class TooSmallOrLargeTest {
         blocksOfADisk(check);
         clampedDiskWorks(check);
         keysOfALeaf(check);
+        oneKeyTooMany(check);
         childrenOfAnInner(check);
+        oneChildTooMany(check);
         childBlocks(check);
         uppermostBlock(check);
+        rootsAreNoNodes(check);
         keysThatARootTells(check);
         leavesTooDeep(check);
         keysAtTheEnds(check);
@@ -109,6 +112,31 @@ final class TooSmallOrLargeTest {
         }
     }
 
+    /**
+     * LEAVES that would be RIGHT if LMOST were one more: with an even number of WORDS one more key
+     * fits, its value is the SUM; else the SUM itself is the key.
+     */
+    private static void oneKeyTooMany(Check check) {
+        for (int words = 12; words <= 40; words++) {
+            int many = (words - 3) / 2 + 1;
+            int[] row = new int[words - 1];
+            row[0] = 1;
+            row[1] = many;
+            for (int at = 2; at < row.length; at += 2) {
+                row[at] = at;
+            }
+            while (words % 2 == 1 && Disks.sumOf(Disks.rowOf(words, row)) <= words) {
+                row[3]++;
+            }
+            TwinRoots x = new TwinRoots(words, 8);
+            Disks.layNew(x, 0, Disks.MARK, 5, 2, many);
+            Disks.layNew(x, 1, Disks.MARK, 4);
+            Disks.layNew(x, 2, row);
+            check.due("recover()", x.recover(), TwinRoots.DONE);
+            check.due("a LEAF of LMOST + 1 keys, " + words + " WORDS", x.count(4), 4);
+        }
+    }
+
     /** ROOT 0 with an INNER NODE in BLOCK 2 of LEAVES from BLOCK 3 on, a key each. */
     private static TwinRoots innerOf(int words, int told, int children) {
         TwinRoots x = new TwinRoots(words, 24);
@@ -143,6 +171,41 @@ final class TooSmallOrLargeTest {
                 check.due("recover()", x.recover(), TwinRoots.DONE);
                 check.due("an INNER that tells " + told, x.count(4), 4);
             }
+        }
+    }
+
+    /**
+     * INNER NODES that would be RIGHT if CMOST were one more: the last KEY is the WORD ahead of the SUM,
+     * and is chosen so that the SUM is the last child's BLOCK.
+     */
+    private static void oneChildTooMany(Check check) {
+        for (int words = 13; words <= 39; words += 2) {
+            int many = (words - 2) / 2 + 1;
+            int lastBlock = 2 + many;
+            int[] row = new int[words - 1];
+            row[0] = 2;
+            row[1] = many;
+            row[2] = 3;
+            for (int i = 1; i < many - 1; i++) {
+                row[1 + 2 * i] = 10 * i;
+                row[2 + 2 * i] = 3 + i;
+            }
+            int key = row.length - 1;
+            while (row[key] <= 10 * many) {
+                row[3]++;
+                row[key] = 0;
+                row[key] = lastBlock - Disks.sumOf(Disks.rowOf(words, row));
+            }
+            TwinRoots x = new TwinRoots(words, 24);
+            Disks.layNew(x, 0, Disks.MARK, 5, 2, many);
+            Disks.layNew(x, 1, Disks.MARK, 4);
+            Disks.layNew(x, 2, row);
+            check.due("the SUM is a BLOCK", x.word(2, words - 1), lastBlock);
+            for (int i = 0; i < many; i++) {
+                Disks.layNew(x, 3 + i, 1, 1, i == 0 ? 0 : row[1 + 2 * i], i);
+            }
+            check.due("recover()", x.recover(), TwinRoots.DONE);
+            check.due("an INNER of CMOST + 1 children, " + words + " WORDS", x.count(4), 4);
         }
     }
 
@@ -185,6 +248,24 @@ final class TooSmallOrLargeTest {
             check.due("recover()", x.recover(), TwinRoots.DONE);
             check.due("the uppermost in BLOCK " + block, x.count(4), right ? 5 : 4);
             check.due("get(77)", x.get(77), right ? block : 0);
+        }
+    }
+
+    /** "numbers from 2 on": a ROOT's BLOCK is none of a NODE, even if it has all that a LEAF has. */
+    private static void rootsAreNoNodes(Check check) {
+        for (int keys = 0; keys < 2; keys++) {
+            TwinRoots x = new TwinRoots(12, 8);
+            Disks.layNew(x, 0, Disks.MARK, 5, 1, keys);
+            Disks.layNew(x, 1, 1, 1, 77, 7);
+            check.due("the uppermost in BLOCK 1", x.recover(), TwinRoots.NOTHING);
+            for (int root = 0; root < 2; root++) {
+                TwinRoots y = new TwinRoots(12, 8);
+                Disks.layNew(y, 1 - root, Disks.MARK, 5, 2, 1 + keys);
+                Disks.layNew(y, 2, 2, 2, 3, 50, root);
+                Disks.layNew(y, 3, 1, 1, 33, 3);
+                Disks.layNew(y, root, 1, 1, 77, 7);
+                check.due("a child in BLOCK " + root, y.recover(), TwinRoots.NOTHING);
+            }
         }
     }
 
@@ -245,16 +326,17 @@ final class TooSmallOrLargeTest {
 
     /** "A cut is armed behind n more WRITES ..; with n below 0 none is." */
     private static void writesAhead(Check check) {
-        for (int n : new int[] {LEAST, -2, -1, 0, 1, 2, 5, GREATEST - 1, GREATEST}) {
+        for (int n : new int[] {LEAST, -257, -2, -1, 0, 1, 2, 5, 300, GREATEST - 1, GREATEST}) {
             TwinRoots x = new TwinRoots(12, 8);
             x.format();
             x.arm(n, 0);
             int went = 0;
-            while (went < 9 && x.commit() == TwinRoots.DONE) {
+            while (went < 400 && x.commit() == TwinRoots.DONE) {
                 went++;
             }
-            check.due("commits behind arm(" + n + ", 0)", went, n < 0 || n > 9 ? 9 : n);
-            check.due("count(3)", x.count(3), n < 0 || n > 9 ? 0 : 1);
+            boolean cut = n >= 0 && n < 400;
+            check.due("commits behind arm(" + n + ", 0)", went, cut ? n : 400);
+            check.due("count(3)", x.count(3), cut ? 1 : 0);
             check.due("count(2)", x.count(2), 2 + went);
         }
     }
